@@ -7,8 +7,8 @@ import java.util.List;
 /** Long runs of calls, drawn by a fixed rule, on the class and on the model of the document. */
 public final class ModelTest {
     private static final int RUNS = 1200;
-    // With a digest each eight of them they stay under the 512 calls that an object is promised for.
-    private static final int CALLS = 448;
+    // With the filling and the digests they stay under the 512 calls that an object is promised for.
+    private static final int CALLS = 380;
     private static final int CALLS_TO_DIGEST = 8;
     private static final int[] STRANGE = {Integer.MIN_VALUE, Integer.MAX_VALUE, -100, -2, -1, 4, 5, 6, 8, 10, 63, 64, 65, 99, 100};
 
@@ -36,6 +36,9 @@ public final class ModelTest {
         // Some runs stay among few names and worths, so that pairs meet; others fill the tables.
         int names = run % 3 == 0 ? 6 : run % 3 == 1 ? 20 : 64;
         int worths = run % 2 == 0 ? 8 : 100;
+        if (run % 5 == 4) {
+            fill(x, model, worths);
+        }
         for (int call = 0; call < CALLS; call++) {
             Method method = draw(4) == 0 ? methodOf("put") : draw(6) == 0 ? methodOf("step") : FACE.get(draw(FACE.size()));
             Object[] given = given(method, names, worths);
@@ -49,6 +52,19 @@ public final class ModelTest {
                 tell(run, call, "after " + method.getName() + Arrays.toString(given) + " the digests differ");
                 return;
             }
+        }
+    }
+
+    /** Runs that begin with full tables, which calls drawn one by one hardly come to. */
+    private void fill(Hashladder x, Model model, int worths) {
+        for (int name = 0; name < 64; name++) {
+            int worth = draw(worths);
+            x.put(0, name, worth);
+            model.put(0, name, worth);
+        }
+        for (int table = 1; table < 4; table++) {
+            x.copy(table, 0);
+            model.copy(table, 0);
         }
     }
 
