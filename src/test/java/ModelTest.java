@@ -1,4 +1,3 @@
-import java.lang.reflect.InvocationTargetException;
 import java.lang.reflect.Method;
 import java.util.Arrays;
 import java.util.Comparator;
@@ -16,11 +15,13 @@ public final class ModelTest {
             .filter(m -> m.getDeclaringClass() == Hashladder.class)
             .sorted(Comparator.comparing(Method::getName))
             .toList();
+    private static final Method PUT = Calls.methodOf(Hashladder.class, "put");
+    private static final Method STEP = Calls.methodOf(Hashladder.class, "step");
 
     private long seed;
     private int wrong;
 
-    public static void main(String[] args) throws Exception {
+    public static void main(String[] args) {
         ModelTest test = new ModelTest();
         for (int run = 0; run < RUNS && test.wrong < 10; run++) {
             test.seed = run * 7919L + 17;
@@ -30,7 +31,7 @@ public final class ModelTest {
         System.exit(test.wrong == 0 ? 0 : 1);
     }
 
-    private void makeRun(int run) throws ReflectiveOperationException {
+    private void makeRun(int run) {
         Hashladder x = new Hashladder();
         Model model = new Model();
         // Some runs stay among few names and worths, so that pairs meet; others fill the tables.
@@ -40,10 +41,10 @@ public final class ModelTest {
             fill(x, model, worths);
         }
         for (int call = 0; call < CALLS; call++) {
-            Method method = draw(4) == 0 ? methodOf("put") : draw(6) == 0 ? methodOf("step") : FACE.get(draw(FACE.size()));
+            Method method = draw(4) == 0 ? PUT : draw(6) == 0 ? STEP : FACE.get(draw(FACE.size()));
             Object[] given = given(method, names, worths);
-            Object got = answerOf(method, x, given);
-            Object due = answerOf(sameOf(method), model, given);
+            String got = Calls.answer(x, method.getName(), given);
+            String due = Calls.answer(model, method.getName(), given);
             if (!got.equals(due)) {
                 tell(run, call, method.getName() + Arrays.toString(given) + " answered " + got + ", due is " + due);
                 return;
@@ -83,22 +84,6 @@ public final class ModelTest {
 
     private static boolean isBy(String name) {
         return name.equals("make") || name.equals("grow") || name.equals("turn");
-    }
-
-    private static Object answerOf(Method method, Object object, Object[] given) throws ReflectiveOperationException {
-        try {
-            return method.invoke(object, given);
-        } catch (InvocationTargetException e) {
-            return e.getCause().getClass();
-        }
-    }
-
-    private static Method methodOf(String name) {
-        return FACE.stream().filter(m -> m.getName().equals(name)).findFirst().orElseThrow();
-    }
-
-    private static Method sameOf(Method method) throws ReflectiveOperationException {
-        return Model.class.getDeclaredMethod(method.getName(), method.getParameterTypes());
     }
 
     private int draw(int below) {

@@ -1,5 +1,4 @@
 import java.io.IOException;
-import java.lang.reflect.InvocationTargetException;
 import java.lang.reflect.Method;
 import java.nio.file.Files;
 import java.nio.file.Path;
@@ -7,40 +6,61 @@ import java.util.ArrayList;
 import java.util.HashSet;
 import java.util.List;
 import java.util.Set;
-import java.util.TreeSet;
 import java.util.stream.Stream;
 
 /**
- * Makes the runs of calls under src/test/runs. A line "# 2 put: words" begins a run on a new object,
- * which shows promise 2 and so has to call put; the lines behind it are a call with the answer that
- * is due each, as in: remove(0, 5) throws.IndexOutOfBoundsException
+ * Makes the runs of calls under src/test/runs, each on a new object. README.md tells their form. What
+ * throws, tells -9 or only asks may leave nothing other than it was; and each sentence of the document
+ * that a call could break has to have its run.
  */
 public final class RunsTest {
     private static final Path RUNS = Path.of("src/test/runs");
-    private static final int PROMISES = 52;
+    private static final int PROMISED_CALLS = 512;
     private static final Set<String> ASKING = Set.of(
             "get", "getOr", "has", "hasWorth", "within", "size", "isEmpty", "sum", "isSame", "text",
             "code", "width", "count", "extreme", "nothing", "hasStep", "walked", "viewSize",
             "viewHas", "viewSum", "house", "isSound", "digest");
 
-    private int wrong;
-    private int calls;
-    private final Set<Integer> shown = new TreeSet<>();
-    private final Set<String> called = new HashSet<>();
-    private String run = "";
-    private String ofPromise = "";
-    private Hashladder x = new Hashladder();
+    private record Call(String name, Object[] given, String due) {
+        String answer(Hashladder x) {
+            return Calls.answer(x, name, given);
+        }
 
-    public static void main(String[] args) throws Exception {
+        boolean mayChange() {
+            return !ASKING.contains(name) && !due.equals("-9") && !due.startsWith("throws.");
+        }
+
+        @Override
+        public String toString() {
+            String list = List.of(given).toString();
+            return name + "(" + list.substring(1, list.length() - 1) + ")";
+        }
+    }
+
+    private final Document document = new Document();
+    private final Set<String> shown = new HashSet<>();
+    private int wrong;
+    private int allCalls;
+    private int runs;
+
+    private String heading = "";
+    private String section = "";
+    private String method = "";
+    private final List<Call> calls = new ArrayList<>();
+
+    private RunsTest() throws IOException {
+    }
+
+    public static void main(String[] args) throws IOException {
         RunsTest test = new RunsTest();
         for (Path file : filesOfRuns()) {
             for (String line : Files.readAllLines(file)) {
                 test.read(line.strip());
             }
+            test.endRun();
         }
-        test.endRun();
-        test.needEachPromise();
-        System.out.println(test.calls + " calls, " + test.wrong + " wrong");
+        test.needEachSentence();
+        System.out.println(test.runs + " runs, " + test.allCalls + " calls, " + test.wrong + " wrong");
         System.exit(test.wrong == 0 ? 0 : 1);
     }
 
@@ -50,83 +70,141 @@ public final class RunsTest {
         }
     }
 
-    private void read(String line) throws ReflectiveOperationException {
+    // ---- reading
+
+    private void read(String line) {
         if (line.startsWith("#")) {
             endRun();
             beginRun(line);
+        } else if (line.startsWith(">")) {
+            readSentence(line.substring(1).strip());
         } else if (!line.isEmpty()) {
             int end = line.indexOf(") ");
-            call(line.substring(0, end + 1), line.substring(end + 2).strip());
+            readCalls(line.substring(0, end + 1), line.substring(end + 2).strip());
         }
     }
 
     private void beginRun(String line) {
         String[] words = line.substring(1, line.indexOf(':')).strip().split(" ");
-        run = line;
-        ofPromise = words[1];
-        shown.add(Integer.valueOf(words[0]));
-        called.clear();
-        x = new Hashladder();
+        heading = line;
+        section = words[0];
+        method = words.length > 1 ? words[1] : "";
     }
+
+    private void readSentence(String sentence) {
+        if (!document.sentences().getOrDefault(section, List.of()).contains(sentence)) {
+            tell("the document does not say there: " + sentence);
+        }
+        shown.add(section + " " + sentence);
+    }
+
+    /** In a line each a..b stands for the numbers from a to b, a call for each. */
+    private void readCalls(String call, String due) {
+        int count = Math.max(countOf(call), countOf(due));
+        for (int i = 0; i < count; i++) {
+            readCall(nthOf(call, i), nthOf(due, i));
+        }
+    }
+
+    private static int countOf(String words) {
+        int count = 1;
+        for (String word : words.split("[(), ]+")) {
+            String[] ends = word.split("\\.\\.");
+            if (ends.length == 2) {
+                count = Math.max(count, Integer.parseInt(ends[1]) - Integer.parseInt(ends[0]) + 1);
+            }
+        }
+        return count;
+    }
+
+    private static String nthOf(String words, int n) {
+        StringBuilder nth = new StringBuilder();
+        for (String word : words.split("(?<=[(), ])|(?=[(), ])")) {
+            String[] ends = word.split("\\.\\.");
+            nth.append(ends.length == 2 ? String.valueOf(Integer.parseInt(ends[0]) + n) : word);
+        }
+        return nth.toString();
+    }
+
+    private void readCall(String call, String due) {
+        String name = call.substring(0, call.indexOf('('));
+        String inside = call.substring(call.indexOf('(') + 1, call.length() - 1);
+        Method called = Calls.methodOf(Hashladder.class, name);
+        Class<?>[] types = called.getParameterTypes();
+        String[] words = inside.isEmpty() ? new String[0] : inside.split(", *");
+        Object[] given = new Object[words.length];
+        for (int i = 0; i < words.length; i++) {
+            given[i] = types[i] == boolean.class ? (Object) Boolean.valueOf(words[i]) : (Object) Integer.valueOf(words[i]);
+        }
+        calls.add(new Call(name, given, due));
+    }
+
+    // ---- making
 
     private void endRun() {
+        if (heading.isEmpty()) {
+            return;
+        }
+        runs++;
+        allCalls += calls.size();
+        needMethod();
+        if (calls.size() > PROMISED_CALLS) {
+            tell("has more calls than an object is promised for");
+        }
+        Hashladder x = new Hashladder();
+        for (int i = 0; i < calls.size(); i++) {
+            Call call = calls.get(i);
+            String got = call.answer(x);
+            if (!got.equals(call.due())) {
+                tell(call + ", call " + (i + 1) + ", answered " + got + ", due is " + call.due());
+            }
+            if (!call.mayChange() && i + 1 + Probe.CALLS <= PROMISED_CALLS) {
+                needUnchanged(i);
+            }
+        }
+        heading = "";
+        calls.clear();
+    }
+
+    private void needMethod() {
         // The constructor is promised first, and each run calls it.
-        if (!ofPromise.isEmpty() && !ofPromise.equals("Hashladder") && !called.contains(ofPromise)) {
-            tell("does not call " + ofPromise);
+        if (!method.isEmpty() && !method.equals("Hashladder") && calls.stream().noneMatch(c -> c.name().equals(method))) {
+            tell("does not call " + method);
         }
     }
 
-    private void needEachPromise() {
-        for (int promise = 1; promise <= PROMISES; promise++) {
-            if (!shown.contains(promise)) {
-                tell("no run shows promise " + promise);
+    private void needUnchanged(int last) {
+        List<String> with = Probe.of(objectAfter(last + 1));
+        List<String> without = Probe.of(objectAfter(last));
+        for (int i = 0; i < with.size() && i < without.size(); i++) {
+            if (!with.get(i).equals(without.get(i))) {
+                tell(calls.get(last) + " made " + with.get(i) + " of " + without.get(i));
+                return;
             }
         }
     }
 
-    private void call(String call, String due) throws ReflectiveOperationException {
-        calls++;
-        String name = call.substring(0, call.indexOf('('));
-        called.add(name);
-        long before = x.digest();
-        String got = answerOf(name, call.substring(call.indexOf('(') + 1, call.length() - 1));
-        if (!got.equals(due)) {
-            tell(call + " answered " + got + ", due is " + due);
+    private Hashladder objectAfter(int count) {
+        Hashladder x = new Hashladder();
+        for (Call call : calls.subList(0, count)) {
+            call.answer(x);
         }
-        boolean mayChange = !ASKING.contains(name) && !got.equals("-9") && !got.startsWith("throws.");
-        if (!mayChange && x.digest() != before) {
-            tell(call + " answered " + got + " but changed what is told");
-        }
+        return x;
     }
 
-    private String answerOf(String name, String inside) throws ReflectiveOperationException {
-        Method method = methodOf(name);
-        Class<?>[] types = method.getParameterTypes();
-        String[] words = inside.isEmpty() ? new String[0] : inside.split(", *");
-        List<Object> given = new ArrayList<>();
-        for (int i = 0; i < words.length; i++) {
-            given.add(types[i] == boolean.class ? (Object) Boolean.valueOf(words[i])
-                    : (Object) Integer.valueOf(words[i]));
-        }
-        try {
-            Object answer = method.invoke(x, given.toArray());
-            return answer instanceof String ? "\"" + answer + "\"" : String.valueOf(answer);
-        } catch (InvocationTargetException e) {
-            return "throws." + e.getCause().getClass().getSimpleName();
-        }
-    }
-
-    private static Method methodOf(String name) {
-        for (Method method : Hashladder.class.getDeclaredMethods()) {
-            if (method.getName().equals(name)) {
-                return method;
+    private void needEachSentence() {
+        document.sentences().forEach((where, sentences) -> {
+            for (String sentence : sentences) {
+                if (!shown.contains(where + " " + sentence)) {
+                    heading = where;
+                    tell("no run shows: " + sentence);
+                }
             }
-        }
-        throw new IllegalArgumentException("no method " + name);
+        });
     }
 
     private void tell(String words) {
         wrong++;
-        System.out.println(run + ": " + words);
+        System.out.println(heading + ": " + words);
     }
 }
