@@ -158,6 +158,7 @@ public final class RunsTest {
             if (!got.equals(call.due())) {
                 tell(call + ", call " + (i + 1) + ", answered " + got + ", due is " + call.due());
             }
+            // The probe's own calls have to be promised, too.
             if (!call.mayChange() && i + 1 + Probe.CALLS <= PROMISED_CALLS) {
                 needUnchanged(i);
             }
