@@ -20,6 +20,7 @@ public final class SoundTest {
             needFalse("a pair that is counted does not come", table, "worthOf", 5, -1);
             needFalse("a pair has a worth that is not there", table, "worthOf", 63, 98);
         }
+        needDigestOfFalse();
         System.out.println(wrong + " wrong");
         System.exit(wrong == 0 ? 0 : 1);
     }
@@ -39,6 +40,17 @@ public final class SoundTest {
         }
         if (x.digest() == before) {
             tell(fault, table, "digest() is as before");
+        }
+    }
+
+    /** With the spare table alone bent all is as before but isSound(), which digest() takes in last. */
+    private static void needDigestOfFalse() throws ReflectiveOperationException {
+        Hashladder x = new Hashladder();
+        x.put(0, 5, 50);
+        long before = x.digest();
+        bend(opened(Hashladder.class, "spare").get(x), "pairs", -1, 1);
+        if (x.isSound() || x.digest() != before - 1) {
+            tell("the copy has a pair more", 0, "digest() does not take in 0 for isSound()");
         }
     }
 
